@@ -11,7 +11,7 @@ public final class LanguageTest {
         "^import ", "^package ", "\\bcatch\\b", "\\btry\\b", "\\bfinally\\b", "\\bassert\\b",
         "\\bsynchronized\\b", "->", "::", "\\bstatic\\s*\\{", "Exact\\b", "\\bSystem\\.(?!arraycopy)",
         "\\bRandom\\b", "\\bThread\\b", "Math\\.(sqrt|pow|random|floor\\b|ceil|round)",
-        "\\bprotected\\b", "\\bString\\.format\\b", "\\binstanceof\\b.*&&",
+        "\\bprotected\\b", "\\bString\\.format\\b",
         "\\bnew (Integer|Long|Object)\\b", "\\.(equals|hashCode|toString)\\(",
     };
 

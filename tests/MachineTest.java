@@ -23,7 +23,22 @@ public final class MachineTest {
         for (int seed = 0; seed < RUNS; seed++) {
             run(new Random(seed), face);
         }
+        readOn();
         Check.finish("MachineTest");
+    }
+
+    /** More readings than an object's 512 calls can make. */
+    private static void readOn() {
+        FerroDesk desk = new FerroDesk();
+        desk.addBoard(0, 200);
+        desk.queue(desk.post(0, 1, 0, 2000), 0);
+        for (int hour = 1; hour < 1999; hour++) {
+            desk.go(1);
+            Check.same("a reading", Check.answer(desk, on -> on.pass(0, 1)) instanceof Integer,
+                    true);
+            Check.same("an early one", Check.answer(desk, on -> on.readIn(0, 1))
+                    instanceof Integer, true);
+        }
     }
 
     private static void run(Random random, Method[] face) throws ReflectiveOperationException {

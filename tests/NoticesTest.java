@@ -8,6 +8,7 @@ public final class NoticesTest {
         takeBack();
         takeBackRefused();
         mend();
+        mendRaisesByOne();
         mendBeforeItsHours();
         mendRefused();
         deny();
@@ -220,6 +221,37 @@ public final class NoticesTest {
         Check.same("13: the hours that it had left", desk.isDue(3), true);
         desk.go(1);
         Check.same("13: no more of them", desk.isDue(3), false);
+    }
+
+    private static void mendRaisesByOne() {
+        FerroDesk desk = new FerroDesk();
+        for (int district = 0; district < 4; district++) {
+            desk.addBoard(district, 200);
+        }
+        int[] ranks = {3, 5, 4, 3};
+        for (int number = 0; number < ranks.length; number++) {
+            desk.post(ranks[number], 1 << number, number, 99);
+            desk.queue(number, 3);
+        }
+        desk.queue(0, 1);
+        desk.queue(0, 2);
+        desk.takeBack(1, 3);
+        desk.takeBack(2, 3);
+        desk.go(1);
+        Check.same("13: the higher one is shown", desk.shows(3), 1);
+        desk.go(2);
+        Check.same("13: this one is shown", desk.shows(3), 0);
+        desk.pass(3, 1);
+        desk.pass(2, 1);
+        desk.post(5, 1, 0, 99);
+        desk.queue(4, 3);
+        desk.post(4, 1, 0, 99);
+        desk.queue(5, 3);
+        Check.same("13: the other one", desk.mend(0, 2), 6);
+        Check.same("13: behind the rank 5 and the lower number", Check.queueOf(desk, 3),
+                " 4 5 6 0 3");
+        Check.same("13: the district 2", Check.queueOf(desk, 2), " 6 0");
+        Check.same("13: the district 1", Check.queueOf(desk, 1), " 0");
     }
 
     private static void mendBeforeItsHours() {

@@ -3,6 +3,7 @@ public final class ReadersTest {
     public static void main(String[] args) {
         pass();
         readersAndReadIn();
+        twoNoticesInAnHour();
         passInManyHours();
         suspects();
         suspectAt();
@@ -85,6 +86,24 @@ public final class ReadersTest {
             Check.refuses("20: no notice", desk, IndexOutOfBoundsException.class,
                     on -> on.readIn(number, 0));
         }
+    }
+
+    private static void twoNoticesInAnHour() {
+        FerroDesk desk = new FerroDesk();
+        for (int number = 0; number < 2; number++) {
+            desk.addBoard(number, 200);
+            desk.post(0, 1, 0, 9);
+            desk.queue(number, number);
+        }
+        desk.go(2);
+        desk.pass(1, 6);
+        desk.pass(0, 4);
+        desk.pass(1, 1);
+        Check.same("20: of the one", desk.readIn(0, 2), 4);
+        Check.same("20: of the other", desk.readIn(1, 2), 7);
+        Check.same("19: of the one", desk.readers(0, 0), 4);
+        Check.same("19: of the other", desk.readers(1, 1), 7);
+        Check.same("19: not of the other there", desk.readers(1, 0), 0);
     }
 
     /** As many readings as an object's calls can make, each in an hour of its own. */

@@ -5,6 +5,8 @@ public final class TermsTest {
         chargeForTheCellsThatDiffer();
         leastGreatestWear();
         fewestChanges();
+        fewestChangesOfTheLeastWear();
+        wearAheadOfChanges();
         staysAsItIs();
         theSameCellsOfAnotherNotice();
         wipedAheadOfTheNext();
@@ -38,6 +40,7 @@ public final class TermsTest {
         show(enough, 0, 7, 0, 2);
         enough.go(1);
         Check.same("three changes and three to wipe", enough.shows(0), 0);
+        Check.same("it can be wiped with what is left", enough.isSound(), true);
         enough.go(1);
         Check.same("wiped", enough.shows(0), -1);
         Check.same("all is spent", enough.charge(0), 0);
@@ -98,6 +101,37 @@ public final class TermsTest {
         Check.same("of the wear 1: two of its cells stay", Check.cellsOf(desk, 0), 0x0E);
         Check.same("the least shift of those with one change", desk.shift(0), 1);
         Check.same("one change", desk.changes(), 3L);
+    }
+
+    /** The last row is worn more than what the first can come to: there only changes count. */
+    private static void fewestChangesOfTheLeastWear() {
+        FerroDesk desk = deskWith(200, 20);
+        show(desk, 0, 0xFF000000, 1, 2);
+        show(desk, 0, 0xFF000000, 3, 4);
+        desk.go(4);
+        Check.same("the last row's wear", desk.worst(0), 4);
+        show(desk, 0, 0x0C, 0, 99);
+        desk.go(1);
+        Check.same("the least shift", desk.shift(0), 0);
+        show(desk, 1, 0x07, 0, 99);
+        desk.go(1);
+        Check.same("one change instead of three, by the lesser shift", desk.shift(0), 1);
+        Check.same("one cell more", Check.cellsOf(desk, 0), 0x0E);
+        Check.same("32, 2 and 1", desk.changes(), 35L);
+    }
+
+    private static void wearAheadOfChanges() {
+        FerroDesk desk = deskWith(200, 20);
+        show(desk, 0, 0x82, 1, 2);
+        desk.go(2);
+        show(desk, 0, 0x01, 0, 99);
+        desk.go(1);
+        Check.same("between the worn cells", Check.cellsOf(desk, 0), 0x01);
+        show(desk, 1, 0x03, 0, 99);
+        desk.go(1);
+        Check.same("three changes that spread the wear, not one", Check.cellsOf(desk, 0), 0x0C);
+        Check.same("two columns", desk.shift(0), 2);
+        Check.same("no worse", desk.worst(0), 2);
     }
 
     private static void staysAsItIs() {
@@ -189,6 +223,7 @@ public final class TermsTest {
             Check.same("shown", desk.shows(0), number);
             Check.same("once more", desk.worst(0), 2 * number + 1);
             Check.same("awake", desk.sleeps(0), false);
+            Check.same("each cell can change once more", desk.isSound(), true);
             desk.go(3);
         }
         Check.same("worn out", desk.worst(0), 60);

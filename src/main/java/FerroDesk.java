@@ -30,7 +30,7 @@ public final class FerroDesk {
     private final Board[] boards = new Board[MOST_BOARDS];
     private int boardCount = 0;
     private final Notice[] notices = new Notice[MOST_NOTICES];
-    /** The same notices; those that were taken stand first, by falling rank, then by number. */
+    /** The same notices: those taken come first, by falling rank, then by number. */
     private final Notice[] ranked = new Notice[MOST_NOTICES];
     private int noticeCount = 0;
     private final Readings readings = new Readings();
@@ -123,7 +123,6 @@ public final class FerroDesk {
         if (from < 0 || from >= till || till > LAST_HOUR) {
             throw new IllegalArgumentException("the hours are not 0 to 2000, the first one ahead");
         }
-        checkRoomForNotice();
         return take(rank, picture, from, till).number;
     }
 
@@ -166,7 +165,6 @@ public final class FerroDesk {
         if (wrong.mended || wrong.isOver(hour)) {
             throw new UnsupportedOperationException("it was mended, or its hours are over");
         }
-        checkRoomForNotice();
         int rank = Math.min(wrong.rank + 1, HIGHEST_RANK);
         Notice right = take(rank, picture, Math.max(hour, wrong.from), wrong.till);
         queueWhereRead(right, wrong);
@@ -185,7 +183,6 @@ public final class FerroDesk {
         if (till <= hour || till > LAST_HOUR) {
             throw new IllegalArgumentException("the hour is not later than now, or later than 2000");
         }
-        checkRoomForNotice();
         Notice denial = take(HIGHEST_RANK, ~picture, hour, till);
         denial.putInto(district);
         return denial.number;
@@ -421,14 +418,10 @@ public final class FerroDesk {
         }
     }
 
-    private void checkRoomForNotice() {
+    private Notice take(int rank, int picture, int from, int till) {
         if (noticeCount >= MOST_NOTICES) {
             throw new IllegalStateException("there are 40 notices");
         }
-    }
-
-    /** Only behind checkRoomForNotice: the next blank notice is there. */
-    private Notice take(int rank, int picture, int from, int till) {
         Notice fresh = notices[noticeCount];
         fresh.fill(rank, picture, from, till);
         int place = noticeCount;
