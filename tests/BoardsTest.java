@@ -2,7 +2,9 @@
 public final class BoardsTest {
     public static void main(String[] args) {
         aNewObject();
+        noBoardYet();
         addBoard();
+        leastAndGreatestCharge();
         setSun();
         charge();
         cellAndWear();
@@ -28,6 +30,46 @@ public final class BoardsTest {
         Check.same("1: another desk's boards", other.boards(), 0);
         Check.same("1: another desk's notices", other.notices(), 0);
         Check.same("1: another desk's hour", other.hour(), 0);
+    }
+
+    private static void noBoardYet() {
+        FerroDesk desk = new FerroDesk();
+        desk.queue(desk.post(3, 7, 0, 9), 0);
+        desk.go(1);
+        int[] boards = {-1, 0, 5, 6, Integer.MIN_VALUE, Integer.MAX_VALUE};
+        for (int board : boards) {
+            Class<?> due = IndexOutOfBoundsException.class;
+            Check.refuses("4: no board", desk, due, on -> on.charge(board));
+            Check.refuses("5: no board", desk, due, on -> on.cell(board, 0, 0));
+            Check.refuses("6: no board", desk, due, on -> on.wear(board, 7, 3));
+            Check.refuses("7: no board", desk, due, on -> on.shows(board));
+            Check.refuses("8: no board", desk, due, on -> on.shift(board));
+            Check.refuses("9: no board", desk, due, on -> on.sleeps(board));
+            Check.refuses("18: no board", desk, due, on -> on.pass(board, 1));
+            Check.refuses("27: no board", desk, due, on -> on.cellAnew(board, 0, 0));
+            Check.refuses("29: no board", desk, due, on -> on.worst(board));
+        }
+        Check.same("2: the first one", desk.addBoard(3, 7), 0);
+        Check.same("4: it is there", desk.charge(0), 7);
+    }
+
+    private static void leastAndGreatestCharge() {
+        FerroDesk desk = new FerroDesk();
+        desk.addBoard(0, 0);
+        desk.addBoard(3, 200);
+        Check.same("2: a charge of 0", desk.charge(0), 0);
+        Check.same("2: a charge of 200", desk.charge(1), 200);
+        desk.setSun(0);
+        desk.go(48);
+        Check.same("3: a sun of 0", desk.charge(0), 0);
+        desk.setSun(20);
+        desk.go(1);
+        Check.same("3: a sun of 20", desk.charge(0), 20);
+        Check.same("4: 200 stay 200", desk.charge(1), 200);
+        desk.go(9);
+        Check.same("4: 200 at last", desk.charge(0), 200);
+        desk.go(1);
+        Check.same("4: and no more", desk.charge(0), 200);
     }
 
     private static void addBoard() {

@@ -1,7 +1,12 @@
+import java.lang.reflect.InvocationTargetException;
+import java.lang.reflect.Method;
+import java.util.HashMap;
+import java.util.Map;
 import java.util.Objects;
 
 /** Counts what the tests find; a test class ends with finish. */
 final class Check {
+    private static final Map<String, Method> METHODS = new HashMap<>();
     private static int asked = 0;
     private static int wrong = 0;
 
@@ -36,33 +41,73 @@ final class Check {
         }
     }
 
-    static String stateOf(FerroDesk desk) {
-        StringBuilder text = new StringBuilder();
-        text.append(desk.hour()).append(' ').append(desk.boards()).append(' ')
-                .append(desk.notices()).append(' ').append(desk.changes()).append(' ')
-                .append(desk.checksum()).append(' ').append(desk.isSound());
-        for (int board = 0; board < desk.boards(); board++) {
-            text.append("\nboard ").append(desk.charge(board)).append(' ')
-                    .append(desk.shows(board)).append(' ').append(desk.shift(board)).append(' ')
-                    .append(desk.sleeps(board));
+    /**
+     * What a FerroDesk or the Model answers to a call, or the simple name of the exception's own
+     * class: one below the due one is wrong.
+     */
+    static Object ask(Object on, String name, Object... values) {
+        Method method = METHODS.computeIfAbsent(on.getClass().getName() + " " + name, key -> {
+            for (Method found : on.getClass().getMethods()) {
+                if (found.getName().equals(name)) {
+                    return found;
+                }
+            }
+            throw new IllegalStateException("there is no call " + name);
+        });
+        try {
+            return method.invoke(on, values);
+        } catch (InvocationTargetException e) {
+            return e.getCause().getClass().getSimpleName();
+        } catch (IllegalAccessException e) {
+            throw new IllegalStateException(e);
         }
-        for (int notice = 0; notice < desk.notices(); notice++) {
-            text.append("\nnotice ").append(desk.isDue(notice)).append(' ')
-                    .append(desk.readIn(notice, desk.hour()));
+    }
+
+    /** All that a FerroDesk or the Model tells of itself in this hour. */
+    static String stateOf(Object on) {
+        StringBuilder text = new StringBuilder();
+        Object hour = ask(on, "hour");
+        int boards = (Integer) ask(on, "boards");
+        int notices = (Integer) ask(on, "notices");
+        text.append(hour).append(' ').append(boards).append(' ').append(notices);
+        tell(text, on, "changes");
+        tell(text, on, "checksum");
+        tell(text, on, "isSound");
+        tell(text, on, "shownShare");
+        tell(text, on, "meanWear");
+        for (int board = 0; board < boards; board++) {
+            text.append("\nboard");
+            String[] calls = {"charge", "shows", "shift", "sleeps", "worst"};
+            for (String call : calls) {
+                tell(text, on, call, board);
+            }
+            for (int cell = 0; cell < 32; cell++) {
+                tell(text, on, "cellAnew", board, cell % 8, cell / 8);
+            }
+        }
+        for (int notice = 0; notice < notices; notice++) {
+            text.append("\nnotice");
+            tell(text, on, "isDue", notice);
+            tell(text, on, "readIn", notice, hour);
             for (int district = 0; district < 4; district++) {
-                text.append(' ').append(desk.readers(notice, district));
+                tell(text, on, "readers", notice, district);
             }
         }
         for (int district = 0; district < 4; district++) {
-            text.append("\nqueue").append(queueOf(desk, district));
+            text.append("\nqueue").append(queueOf(on, district));
         }
         return text.toString();
     }
 
-    static String queueOf(FerroDesk desk, int district) {
+    private static void tell(StringBuilder text, Object on, String call, Object... values) {
+        text.append(' ').append(ask(on, call, values));
+    }
+
+    static String queueOf(Object on, int district) {
         StringBuilder text = new StringBuilder();
-        for (int index = 0; index < desk.queued(district); index++) {
-            text.append(' ').append(desk.queuedAt(district, index));
+        int queued = (Integer) ask(on, "queued", district);
+        for (int index = 0; index < queued; index++) {
+            tell(text, on, "queuedAt", district, index);
         }
         return text.toString();
     }

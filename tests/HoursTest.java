@@ -4,6 +4,7 @@ public final class HoursTest {
         go();
         counts();
         cellAnew();
+        cellAnewOfManyChanges();
         changesAndWorst();
         checksum();
         shares();
@@ -103,6 +104,26 @@ public final class HoursTest {
             Check.refuses("27: cellAnew", desk, IndexOutOfBoundsException.class,
                     on -> on.cellAnew(row[0], row[1], row[2]));
         }
+    }
+
+    /** 39 notices of an hour each come between one that lasts: three changes for each of them. */
+    private static void cellAnewOfManyChanges() {
+        FerroDesk desk = new FerroDesk();
+        desk.addBoard(0, 200);
+        desk.setSun(20);
+        desk.queue(desk.post(0, 0x11, 0, 2000), 0);
+        for (int number = 1; number < 40; number++) {
+            desk.queue(desk.post(5, 0x0700 << number % 3, 2 * number, 2 * number + 1), 0);
+        }
+        for (int hour = 1; hour <= 80; hour++) {
+            desk.go(1);
+            Check.same("23: by turns", desk.shows(0), hour % 2 == 0 && hour < 80 ? hour / 2 : 0);
+            for (int cell = 0; cell < 32; cell++) {
+                Check.same("27: behind many changes", desk.cellAnew(0, cell % 8, cell / 8),
+                        desk.cell(0, cell % 8, cell / 8));
+            }
+        }
+        Check.same("28: 2, and 39 times 2, 3, 3 and 2", desk.changes(), 2L + 39L * 10L);
     }
 
     private static void changesAndWorst() {

@@ -1,5 +1,3 @@
-import java.lang.reflect.InvocationTargetException;
-import java.lang.reflect.Method;
 import java.util.Arrays;
 import java.util.Map;
 import java.util.Random;
@@ -114,8 +112,8 @@ public final class ModelTest {
 
     private boolean call(String name, Object... values) {
         calls++;
-        Object want = answer(model, name, values);
-        Object got = answer(desk, name, values);
+        Object want = Check.ask(model, name, values);
+        Object got = Check.ask(desk, name, values);
         String what = name + Arrays.toString(values);
         told.append("\n  ").append(what).append(" -> ").append(want);
         Check.same(what, got, want);
@@ -140,20 +138,6 @@ public final class ModelTest {
         }
         if (name.equals("deny")) {
             pictures.put("" + want, ~(Integer) values[0]);
-        }
-    }
-
-    /** The answer, or the exception's own class: a subclass of the due one is wrong. */
-    private static Object answer(Object on, String name, Object[] values) {
-        Class<?>[] kinds = new Class<?>[values.length];
-        Arrays.fill(kinds, int.class);
-        try {
-            Method method = on.getClass().getMethod(name, kinds);
-            return method.invoke(on, values);
-        } catch (InvocationTargetException e) {
-            return e.getCause().getClass().getSimpleName();
-        } catch (ReflectiveOperationException e) {
-            throw new IllegalStateException(e);
         }
     }
 

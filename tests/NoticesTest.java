@@ -7,6 +7,9 @@ public final class NoticesTest {
         queueOfThoseOver();
         takeBack();
         takeBackRefused();
+        takeBackAtTheEdges();
+        noNoticeYet();
+        refusedCallsLeaveNoMark();
         mend();
         mendRaisesByOne();
         mendBeforeItsHours();
@@ -176,6 +179,93 @@ public final class NoticesTest {
         Check.refuses("12: over", desk, IllegalArgumentException.class, on -> on.takeBack(1, 3));
         Check.refuses("12: mended, over", desk, IllegalArgumentException.class,
                 on -> on.takeBack(0, 3));
+    }
+
+    private static void takeBackAtTheEdges() {
+        FerroDesk desk = new FerroDesk();
+        desk.post(3, 7, 0, 2000);
+        desk.post(3, 7, 0, 20);
+        desk.post(3, 7, 0, 4);
+        desk.queue(0, 1);
+        desk.go(3);
+        Check.refuses("12: now", desk, IllegalArgumentException.class, on -> on.takeBack(0, 3));
+        Check.refuses("12: later than 2000", desk, IllegalArgumentException.class,
+                on -> on.takeBack(0, 2001));
+        Check.same("12: the latest hour", desk.takeBack(0, 2000), 0);
+        Check.same("12: the hour told already", desk.takeBack(1, 20), 0);
+        Check.same("12: the next hour", desk.takeBack(1, 4), 0);
+        Check.refuses("12: the one told first", desk, IllegalArgumentException.class,
+                on -> on.takeBack(1, 20));
+        Check.same("12: the next hour, which was told already", desk.takeBack(2, 4), 0);
+        Check.same("12: due in this hour still", desk.isDue(1), true);
+        desk.go(1);
+        Check.same("12: and not in the next", desk.isDue(1), false);
+        Check.refuses("11: taken back, and over", desk, UnsupportedOperationException.class,
+                on -> on.queue(1, 1));
+        Check.refuses("11: taken back, to the hour told", desk,
+                UnsupportedOperationException.class, on -> on.queue(0, 1));
+        Check.same("12: it stays in its queue", Check.queueOf(desk, 1), " 0");
+        Check.same("13: one taken back can be mended", desk.mend(0, 1), 3);
+        Check.same("11: the other one was not taken back", desk.queue(3, 2), true);
+        Check.refuses("11: mended and taken back", desk, UnsupportedOperationException.class,
+                on -> on.queue(0, 2));
+        Check.same("12: the other one", desk.takeBack(3, 5), 0);
+    }
+
+    private static void noNoticeYet() {
+        FerroDesk desk = new FerroDesk();
+        desk.addBoard(0, 200);
+        desk.go(1);
+        int[] notices = {-1, 0, 39, 40, Integer.MIN_VALUE, Integer.MAX_VALUE};
+        for (int notice : notices) {
+            Class<?> due = IndexOutOfBoundsException.class;
+            Check.refuses("11: no notice", desk, due, on -> on.queue(notice, 0));
+            Check.refuses("12: no notice", desk, due, on -> on.takeBack(notice, 2));
+            Check.refuses("13: no notice", desk, due, on -> on.mend(notice, 1));
+            Check.refuses("17: no notice", desk, due, on -> on.isDue(notice));
+            Check.refuses("19: no notice", desk, due, on -> on.readers(notice, 0));
+            Check.refuses("20: no notice", desk, due, on -> on.readIn(notice, 1));
+        }
+        for (int district = 0; district < 4; district++) {
+            int asked = district;
+            Check.same("15: an empty queue", desk.queued(district), 0);
+            Check.refuses("16: an empty queue", desk, IndexOutOfBoundsException.class,
+                    on -> on.queuedAt(asked, 0));
+            Check.same("21: no suspects", desk.suspects(1, district), 0);
+            Check.refuses("22: no suspects", desk, IndexOutOfBoundsException.class,
+                    on -> on.suspectAt(1, asked, 0));
+        }
+        Check.same("10: the first one", desk.post(0, 1, 0, 1), 0);
+    }
+
+    /** What is not asked for at once: whether a notice counts as taken back, mended or queued. */
+    private static void refusedCallsLeaveNoMark() {
+        FerroDesk desk = new FerroDesk();
+        desk.addBoard(0, 200);
+        for (int number = 0; number < 40; number++) {
+            desk.post(1, 7, 0, 9);
+        }
+        desk.go(1);
+        Check.refuses("12: too late", desk, IllegalArgumentException.class,
+                on -> on.takeBack(0, 10));
+        Check.refuses("12: too early", desk, IllegalArgumentException.class,
+                on -> on.takeBack(0, 1));
+        Check.same("11: it was not taken back", desk.queue(0, 0), true);
+        Check.refuses("13: there are 40", desk, IllegalStateException.class, on -> on.mend(1, 8));
+        Check.refuses("13: the same", desk, IllegalArgumentException.class, on -> on.mend(1, 7));
+        Check.same("11: it was not mended", desk.queue(1, 0), true);
+        Check.same("12: nor is it of this hour only", desk.takeBack(1, 9), 0);
+        Check.refuses("11: taken back", desk, UnsupportedOperationException.class,
+                on -> on.queue(1, 3));
+        Check.same("15: so it is not there", desk.queued(3), 0);
+        Check.refuses("14: there are 40", desk, IllegalStateException.class,
+                on -> on.deny(1, 2, 9));
+        Check.same("15: nothing came into the queue", desk.queued(2), 0);
+        desk.go(1);
+        Check.refuses("18: too many", desk, IllegalArgumentException.class,
+                on -> on.pass(0, 1000));
+        Check.same("18: nobody read it", desk.pass(0, 1), 1);
+        Check.same("20: nobody in this hour", desk.readIn(0, 2), 1);
     }
 
     private static void mend() {

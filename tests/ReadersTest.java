@@ -6,6 +6,7 @@ public final class ReadersTest {
         twoNoticesInAnHour();
         passInManyHours();
         suspects();
+        suspectsByCell();
         suspectAt();
         Check.finish("ReadersTest");
     }
@@ -162,6 +163,23 @@ public final class ReadersTest {
         Check.refuses("21: 0", desk, IllegalArgumentException.class, on -> on.suspects(0, 0));
         Check.refuses("22: 0", desk, IllegalArgumentException.class,
                 on -> on.suspectAt(0, 0, 99));
+    }
+
+    /** A notice of one black cell can have made a rumour of any one cell of its row, and no other. */
+    private static void suspectsByCell() {
+        for (int black = 0; black < 32; black++) {
+            FerroDesk desk = new FerroDesk();
+            desk.addBoard(1, 200);
+            desk.queue(desk.post(0, 1 << black, 0, 9), 1);
+            desk.go(1);
+            desk.pass(0, 1);
+            for (int cell = 0; cell < 32; cell++) {
+                int due = cell / 8 == black / 8 ? 1 : 0;
+                Check.same("21: the cell " + black + ", the rumour " + cell,
+                        desk.suspects(1 << cell, 1), due);
+                Check.same("21: two cells", desk.suspects(1 << cell | 1 << (cell + 1) % 32, 1), 0);
+            }
+        }
     }
 
     private static void suspectAt() {

@@ -598,8 +598,14 @@ public final class FerroDesk {
             return found;
         }
 
+        /** By the wear of the cells itself: what is kept beside it is not to vouch for itself. */
         boolean canWipe() {
-            return Integer.bitCount(black) <= charge && (black & wornOut) == 0;
+            for (int cell = 0; cell < CELLS; cell++) {
+                if (bitOf(black, cell) == 1 && wearByCell[cell] >= MOST_WEAR) {
+                    return false;
+                }
+            }
+            return Integer.bitCount(black) <= charge;
         }
 
         void wipe() {
